@@ -248,6 +248,14 @@ public final class RunningTest {
         due.is("count(11)", 1, x.count(11));
         due.is("undo()", 3, x.undo());
         due.is("planOf(0, 6)", 1, x.planOf(0, 6));
+        due.is("planOf(0, 5)", 1, x.planOf(0, 5));
+        x.run(0, 1, 0, 0, 0);
+        x.analyse();
+        x.run(0, 2, 0, 0, 0);
+        due.is("latest(1), a plan of its own", 1, x.latest(1));
+        due.is("planOf(1, 6)", 0, x.planOf(1, 6));
+        due.is("planOf(1, 5)", 0, x.planOf(1, 5));
+        due.is("planOf(1, 4)", 1, x.planOf(1, 4));
     }
 
     private static void runSurpriseThatIsNotKept() {

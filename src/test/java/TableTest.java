@@ -170,6 +170,11 @@ public final class TableTest {
         due.is("planOf(2, 2), as it was made", 9, x.planOf(2, 2));
         due.is("index(2, 0)", 0, x.index(2, 0));
         due.is("count(5)", 4, x.count(5));
+        due.is("index(1, 0), the plan made last", 1, x.index(1, 0));
+        due.is("planOf(3, 0)", INVALID, x.planOf(3, 0));
+        due.is("count(5)", 3, x.count(5));
+        due.is("index(1, 1)", 0, x.index(1, 1));
+        due.is("count(5), it does not come back", 3, x.count(5));
     }
 
     private static void analyse() {

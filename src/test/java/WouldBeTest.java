@@ -57,6 +57,8 @@ public final class WouldBeTest {
         due.is("share 0 is not below 0", 1, x.classOf(0, 0, 0, 0, 0));
         x.set(1, 0);
         due.is("nor is it below setting 1", 2, x.classOf(0, 0, 0, 0, 0));
+        x.set(0, 1);
+        due.is("share 0 is below 1", 0, x.classOf(0, 0, 0, 0, 0));
         x.row(0, 0, 0, 0, 30);
         x.row(1, 0, 0, 0, 70);
         x.analyse();
@@ -214,9 +216,17 @@ public final class WouldBeTest {
         due.promise(22, "undo, each change");
         PlanShelves x = Due.with("a=?");
         x.row(1, 2, 3, 4, 5);
+        x.row(6, 7, 8, 9, 10);
         x.dropRow(0);
         x.undo();
-        due.is("rowOf(0, 4), dropRow undone", 5, x.rowOf(0, 4));
+        for (int what = 0; what <= 4; what++) {
+            due.is("rowOf(0, " + what + "), dropRow undone", 1 + what, x.rowOf(0, what));
+            due.is("rowOf(1, " + what + "), dropRow undone", 6 + what, x.rowOf(1, what));
+        }
+        due.is("count(1)", 15, x.count(1));
+        x.undo();
+        due.is("count(0), row undone", 1, x.count(0));
+        due.is("count(1)", 5, x.count(1));
         x.index(2, 1);
         x.undo();
         due.is("count(3), index undone", 0, x.count(3));
@@ -262,11 +272,12 @@ public final class WouldBeTest {
         x.run(0, 2, 0, 0, 0);
         x.run(0, 2, 0, 0, 0);
         int[] before = counts(x);
-        x.run(1, 2, 0, 0, 0);
+        x.run(1, 1, 0, 0, 0);
         due.is("latest(7)", 0, x.latest(7));
+        due.is("latest(0)", 2, x.latest(0));
         x.index(0, 0);
         x.row(2, 2, 2, 2, 900);
-        x.run(1, 2, 0, 0, 0);
+        x.run(1, 1, 0, 0, 0);
         due.is("latest(6)", 1, x.latest(6));
         due.is("count(11)", 1, x.count(11));
         for (int left = 3; left >= 0; left--) {
