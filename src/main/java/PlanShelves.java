@@ -308,10 +308,10 @@ public final class PlanShelves {
     }
 
     private int[] gathered(int v0, int v1, int v2, int v3) {
-        given[0] = v0;
-        given[1] = v1;
-        given[2] = v2;
-        given[3] = v3;
+        put(given, 0, v0);
+        put(given, 1, v1);
+        put(given, 2, v2);
+        put(given, 3, v3);
         return given;
     }
 
@@ -330,6 +330,13 @@ public final class PlanShelves {
     /** The number at a place of a row of numbers; 0 where there is no such place. */
     private static int at(int[] numbers, int place) {
         return place >= 0 && place < numbers.length ? numbers[place] : 0;
+    }
+
+    /** Changes nothing where there is no such place. */
+    private static void put(int[] numbers, int place, int number) {
+        if (place >= 0 && place < numbers.length) {
+            numbers[place] = number;
+        }
     }
 
     private static void copy(int[] from, int[] to) {
@@ -365,10 +372,7 @@ public final class PlanShelves {
         }
 
         void add(int column, int value, int weight) {
-            int place = column * VALUES + value;
-            if (place >= 0 && place < weights.length) {
-                weights[place] += weight;
-            }
+            put(weights, column * VALUES + value, weightOf(column, value) + weight);
         }
 
         int weightWhere(int column, int operator, int value) {
@@ -406,9 +410,9 @@ public final class PlanShelves {
 
         int append(int[] values, int weight) {
             for (int column = 0; column < COLUMNS; column++) {
-                put(rows, column, at(values, column));
+                put(cells, rows * WIDTH + column, at(values, column));
             }
-            put(rows, WEIGHT, weight);
+            put(cells, rows * WIDTH + WEIGHT, weight);
             addToSums(rows, weight);
             rows++;
             return rows - 1;
@@ -418,8 +422,8 @@ public final class PlanShelves {
             int weight = cellAt(row, WEIGHT);
             addToSums(row, -weight);
             rows--;
-            for (int place = row * WIDTH; place >= 0 && place < rows * WIDTH && place < cells.length - WIDTH; place++) {
-                cells[place] = cells[place + WIDTH];
+            for (int place = row * WIDTH; place < rows * WIDTH; place++) {
+                put(cells, place, at(cells, place + WIDTH));
             }
             return weight;
         }
@@ -442,13 +446,6 @@ public final class PlanShelves {
                 }
             }
             return true;
-        }
-
-        private void put(int row, int what, int number) {
-            int place = row * WIDTH + what;
-            if (place >= 0 && place < cells.length) {
-                cells[place] = number;
-            }
         }
 
         private void addToSums(int row, int weight) {
@@ -566,9 +563,9 @@ public final class PlanShelves {
 
         void readFrom(Text text) {
             conditions = Math.min(text.conditions(), MOST_CONDITIONS);
-            for (int k = 0; k < conditions && k < columns.length && k < operators.length; k++) {
-                columns[k] = text.columnOf(k);
-                operators[k] = text.operatorOf(k);
+            for (int k = 0; k < conditions; k++) {
+                put(columns, k, text.columnOf(k));
+                put(operators, k, text.operatorOf(k));
             }
             runs = 0;
         }
@@ -873,9 +870,7 @@ public final class PlanShelves {
 
         int changeSetting(int what, int value) {
             int was = at(settings, what);
-            if (what >= 0 && what < settings.length) {
-                settings[what] = value;
-            }
+            put(settings, what, value);
             return was;
         }
 
@@ -918,10 +913,10 @@ public final class PlanShelves {
         }
 
         private int classOfShare(int share) {
-            if (share < settings[BOUND_0]) {
+            if (share < at(settings, BOUND_0)) {
                 return 0;
             }
-            return share < settings[BOUND_1] ? 1 : 2;
+            return share < at(settings, BOUND_1) ? 1 : 2;
         }
 
         int bestWay(Sums sums, Statement statement, int[] values) {
@@ -955,8 +950,9 @@ public final class PlanShelves {
                 lastRun.origin = WAS_THERE;
                 return shelf.planAt(place);
             }
-            lastRun.dropped = shelf.makeRoom(settings[CAPACITY]);
-            Plan plan = shelf.newPlan(lastRun.statement, lastRun.own, settings[CAPACITY]);
+            int capacity = at(settings, CAPACITY);
+            lastRun.dropped = shelf.makeRoom(capacity);
+            Plan plan = shelf.newPlan(lastRun.statement, lastRun.own, capacity);
             plan.way = bestWay(statistics, statement, values);
             plan.estimate = cost(statistics, statement, values, plan.way);
             lastRun.origin = plan.number == NOT_FOUND ? MADE_NOT_KEPT : MADE_AND_KEPT;
@@ -970,7 +966,7 @@ public final class PlanShelves {
             lastRun.way = plan.way;
             lastRun.estimate = plan.estimate;
             lastRun.cost = cost(table.sums, statement, values, plan.way);
-            lastRun.surprise = lastRun.cost > settings[TIMES] * plan.estimate;
+            lastRun.surprise = lastRun.cost > at(settings, TIMES) * plan.estimate;
             if (lastRun.surprise) {
                 surprise(plan);
             }
@@ -979,7 +975,7 @@ public final class PlanShelves {
         private void surprise(Plan plan) {
             surprises++;
             plan.surprises++;
-            if (plan.surprises >= settings[SURPRISES]) {
+            if (plan.surprises >= at(settings, SURPRISES)) {
                 shelf.throwAway(shelf.placeOf(plan.number));
             }
         }
@@ -1037,11 +1033,11 @@ public final class PlanShelves {
         }
 
         private void forgetOldest() {
-            State oldest = states[0];
             for (int place = 1; place < states.length; place++) {
+                State oldest = states[place - 1];
                 states[place - 1] = states[place];
+                states[place] = oldest;
             }
-            states[states.length - 1] = oldest;
             kept--;
         }
     }

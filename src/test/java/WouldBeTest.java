@@ -1,3 +1,5 @@
+import java.util.Arrays;
+
 /** Promises 19 to 22: classes, ways and costs that would be, and undo. */
 public final class WouldBeTest {
     private static final int INVALID = PlanShelves.INVALID_ARGUMENT;
@@ -98,12 +100,13 @@ public final class WouldBeTest {
             {0, 32, 0, 0, 0}, {0, -1, 0, 0, 0}, {0, 0, 1, 0, 0}, {0, 0, 0, 31, 0}, {0, 0, 0, 0, 1}, {0, 0, 0, 0, -1},
             {1, 32, 0, 0, 0}, {1, 0, 32, 0, 0}, {1, 0, 0, 32, 0}, {1, 0, 0, 0, 32}, {1, 0, 0, -1, 0},
             {1, 0, 0, 0, Integer.MAX_VALUE}, {1, 0, Integer.MIN_VALUE, 0, 0}};
+        due.promise(19, "classOf, wrong arguments");
         for (int[] w : wrong) {
-            String call = "(" + w[0] + ", " + w[1] + ", " + w[2] + ", " + w[3] + ", " + w[4] + ")";
-            due.promise(19, "classOf, wrong arguments");
-            due.is("classOf" + call, INVALID, x.classOf(w[0], w[1], w[2], w[3], w[4]));
-            due.promise(20, "way, wrong arguments");
-            due.is("way" + call, INVALID, x.way(w[0], w[1], w[2], w[3], w[4]));
+            due.is("classOf" + Arrays.toString(w), INVALID, x.classOf(w[0], w[1], w[2], w[3], w[4]));
+        }
+        due.promise(20, "way, wrong arguments");
+        for (int[] w : wrong) {
+            due.is("way" + Arrays.toString(w), INVALID, x.way(w[0], w[1], w[2], w[3], w[4]));
         }
         due.promise(20, "way, the highest values");
         due.is("classOf(1, 31, 31, 31, 31)", 0, x.classOf(1, 31, 31, 31, 31));
