@@ -103,6 +103,24 @@ public final class EdgesOfChangesTest {
         return x;
     }
 
+    /** A full cache, whose last plan was made in the place of the plan 1. */
+    private static PlanShelves crowded() {
+        PlanShelves x = Due.six();
+        x.set(3, 1);
+        Due.runFirst(x, 4);
+        x.run(0, 0, 0, 0, 0);
+        x.pin(0, 1);
+        x.run(4, 0, 0, 0, 0);
+        return x;
+    }
+
+    /** The same, where each run throws its plan away. */
+    private static PlanShelves surprising() {
+        PlanShelves x = crowded();
+        x.row(1, 1, 1, 1, 1);
+        return x;
+    }
+
     /** The text of a seventh statement. */
     private static PlanShelves seventh() {
         PlanShelves x = Due.six();
@@ -160,14 +178,12 @@ public final class EdgesOfChangesTest {
     private static void everythingButTheText() {
         due.sentence(HEADING, "each change records everything before it but the text");
         for (Call call : CHANGES) {
-            PlanShelves x = rich();
-            due.is(call.name() + " is no error", 1, call.answer().applyAsInt(x) >= 0 ? 1 : 0);
-            Due.type(x, "c=?z");
-            x.undo();
-            PlanShelves before = rich();
-            Due.type(before, "c=?z");
-            due.same("behind " + call.name() + " and undo()", Seen.of(before, false), Seen.of(x, false));
+            isUndone(EdgesOfChangesTest::rich, call);
         }
+        isUndone(EdgesOfChangesTest::crowded, new Call("run(1, 0, 0, 0, 0), a plan is dropped", x -> x.run(1, 0, 0, 0, 0)));
+        isUndone(EdgesOfChangesTest::crowded, new Call("run(2, 0, 0, 0, 0), the plan is there", x -> x.run(2, 0, 0, 0, 0)));
+        isUndone(EdgesOfChangesTest::surprising, new Call("run(0, 0, 0, 0, 0), a pinned plan is thrown away", x -> x.run(0, 0, 0, 0, 0)));
+        isUndone(EdgesOfChangesTest::surprising, new Call("run(5, 0, 0, 0, 0), one dropped, one thrown away", x -> x.run(5, 0, 0, 0, 0)));
         PlanShelves all = rich();
         all.set(3, 1);
         all.dropRow(1);
@@ -182,6 +198,19 @@ public final class EdgesOfChangesTest {
             all.undo();
         }
         due.same("behind four changes and four times undo()", Seen.of(kept, false), Seen.of(all, false));
+    }
+
+    /** Every call behind undo() is answered as if the change had not been; with the text that was typed behind it. */
+    private static void isUndone(Supplier<PlanShelves> state, Call call) {
+        PlanShelves x = state.get();
+        due.is(call.name() + " is no error", 1, call.answer().applyAsInt(x) >= 0 ? 1 : 0);
+        Due.type(x, "c=?z");
+        x.undo();
+        PlanShelves before = state.get();
+        Due.type(before, "c=?z");
+        due.same("behind " + call.name() + " and undo()", Seen.of(before, false), Seen.of(x, false));
+        due.is("run behind it", before.run(1, 2, 0, 0, 0), x.run(1, 2, 0, 0, 0));
+        due.is("latest(1), the next number", before.latest(1), x.latest(1));
     }
 
     private static void theOldestStateIsDropped() {

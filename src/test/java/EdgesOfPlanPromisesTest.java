@@ -163,6 +163,13 @@ public final class EdgesOfPlanPromisesTest {
         x.pin(0, 1);
         x.undo();
         due.is("planOf(0, 6), undone", 0, x.planOf(0, 6));
+        x.pin(1, 1);
+        x.set(3, 1);
+        Due.rows(x, 1, 1, 1);
+        x.run(1, 0, 0, 0, 0);
+        x.analyse();
+        x.run(1, 0, 0, 0, 0);
+        due.is("planOf(2, 6), a new plan where a pinned one was thrown away", 0, x.planOf(2, 6));
     }
 
     private static void planOfRunsSince() {

@@ -21,6 +21,7 @@ public final class EdgesOfPlansTest {
         fewestUses();
         usedLastTheLongestAgo();
         allPinned();
+        surpriseOfOneThatIsNotKept();
         thoseDroppedStaySo();
         planForItsClass();
         countsAsAUse();
@@ -343,6 +344,22 @@ public final class EdgesOfPlansTest {
         due.is("planOf(2, 4), used only since it is kept", 1, x.planOf(2, 4));
     }
 
+    private static void surpriseOfOneThatIsNotKept() {
+        due.sentence("Plans", "the new plan is used, but not kept");
+        PlanShelves x = Due.six();
+        x.set(4, 1);
+        x.set(3, 1);
+        x.run(0, 0, 0, 0, 0);
+        x.pin(0, 1);
+        Due.rows(x, 1, 1, 1);
+        x.run(1, 0, 0, 0, 0);
+        due.is("latest(5)", 2, x.latest(5));
+        due.is("latest(6), it surprises as any other", 1, x.latest(6));
+        due.is("count(10)", 1, x.count(10));
+        due.is("count(11), it cannot be thrown away", 0, x.count(11));
+        due.is("planOf(0, 5), it is no surprise of another", 0, x.planOf(0, 5));
+    }
+
     private static void thoseDroppedStaySo() {
         due.sentence("Plans", "(those that were dropped stay so)");
         PlanShelves x = Due.six();
@@ -481,6 +498,8 @@ public final class EdgesOfPlansTest {
         due.is("planOf(0, 0)", INVALID, x.planOf(0, 0));
         due.is("planOf(1, 6)", 1, x.planOf(1, 6));
         due.is("count(11)", 1, x.count(11));
+        x.run(0, 0, 0, 0, 0);
+        due.is("planOf(2, 6), the one that is made for it", 0, x.planOf(2, 6));
     }
 
     private static void indexDropped() {
@@ -507,6 +526,15 @@ public final class EdgesOfPlansTest {
         due.is("index(2, 0), none goes by it", 0, x.index(2, 0));
         due.is("index(0, 0)", 1, x.index(0, 0));
         due.is("count(5), the one as a whole", 1, x.count(5));
+        PlanShelves other = Due.with("a=?&b=?");
+        Due.rows(other, 1, 1, 100);
+        other.analyse();
+        other.index(0, 1);
+        other.index(1, 1);
+        other.run(0, 1, 2, 0, 0);
+        due.is("latest(2)", 1, other.latest(2));
+        due.is("index(0, 0), the plan goes by the other condition", 0, other.index(0, 0));
+        due.is("index(1, 0)", 1, other.index(1, 0));
     }
 
     private static void nothingThrownAway() {

@@ -226,6 +226,12 @@ public final class EdgesOfRunPromisesTest {
         x.run(1, 0, 0, 0, 0);
         due.is("latest(5), the pinned one", 0, x.latest(5));
         due.is("count(8), those whose plan was there", 2, x.count(8));
+        x.pin(1, 0);
+        x.set(3, 1);
+        Due.rows(x, 1, 1, 1);
+        x.run(2, 0, 0, 0, 0);
+        due.is("latest(5), made, kept, and thrown away for its surprise", 1, x.latest(5));
+        due.is("count(5)", 0, x.count(5));
     }
 
     private static void latestSurprise() {
@@ -468,6 +474,7 @@ public final class EdgesOfRunPromisesTest {
         PlanShelves x = new PlanShelves();
         due.list("set(%, 1)", what -> x.set(what, 1), 50, 300, 4, 2, 4, INVALID, INVALID);
         due.each("set(%, 1)", INVALID, what -> x.set(what, 1), -1, 5, 20, 24, MIN, MAX);
+        due.each("set(%, 0)", INVALID, what -> x.set(what, 0), -1, 5, 20, 24, MIN, MAX);
         due.list("count(20 + %)", what -> x.count(20 + what), 1, 1, 1, 1, 1, INVALID);
     }
 
@@ -502,6 +509,7 @@ public final class EdgesOfRunPromisesTest {
         due.sentence("Promise 14", "INVALID_ARGUMENT if an argument is out of range.");
         PlanShelves x = new PlanShelves();
         due.is("set(5, 0)", INVALID, x.set(5, 0));
+        due.is("set(-1, 0)", INVALID, x.set(-1, 0));
         due.is("set(-1, 50)", INVALID, x.set(-1, 50));
         due.is("set(2, 0)", INVALID, x.set(2, 0));
         due.is("set(3, 0)", INVALID, x.set(3, 0));

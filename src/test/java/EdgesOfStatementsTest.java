@@ -204,11 +204,15 @@ public final class EdgesOfStatementsTest {
         x.analyse();
         due.is("29000 - 29 of 29000 is 999", 0, x.classOf(0, 31, 0, 0, 0));
         x.dropRow(29);
-        due.is("it is the statistics, not the rows", 0, x.classOf(0, 31, 0, 0, 0));
+        due.is("999, as the row that is gone is known", 0, x.classOf(0, 31, 0, 0, 0));
         x.analyse();
         due.is("all of them: 1000, not below 1000", 2, x.classOf(0, 31, 0, 0, 0));
         x.set(0, 1);
         due.is("none of them: 0, below 1", 0, x.classOf(0, 30, 0, 0, 0));
+        for (int row = 0; row < 29; row++) {
+            x.dropRow(0);
+        }
+        due.is("1000, as the rows that are gone are known", 2, x.classOf(0, 31, 0, 0, 0));
     }
 
     private static void shareOfNothing() {
@@ -219,6 +223,11 @@ public final class EdgesOfStatementsTest {
         due.is("rows that are not known", 0, x.classOf(0, 31, 0, 0, 0));
         x.set(0, 0);
         due.is("0 is not below 0, but below 300", 1, x.classOf(0, 31, 0, 0, 0));
+        x.set(1, 1);
+        due.is("0 is below 1 as the bound of class 1", 1, x.classOf(0, 31, 0, 0, 0));
+        x.set(0, 1);
+        due.is("0 is below 1", 0, x.classOf(0, 31, 0, 0, 0));
+        x.set(0, 0);
         x.analyse();
         due.is("known", 2, x.classOf(0, 31, 0, 0, 0));
         x.dropRow(0);
