@@ -26,6 +26,13 @@ final class Due {
         is("the document, asked for these words,", 1, Document.says(heading, words) ? 1 : 0);
     }
 
+    /** Ends the test ahead of it. */
+    void begin(String name) {
+        close();
+        test = name;
+        wrongAhead = wrong;
+    }
+
     void is(String call, long want, long got) {
         asked++;
         if (got != want) {
@@ -72,12 +79,6 @@ final class Due {
         if (wrong != 0) {
             System.exit(1);
         }
-    }
-
-    private void begin(String name) {
-        close();
-        test = name;
-        wrongAhead = wrong;
     }
 
     private void close() {
